@@ -973,23 +973,26 @@ public final class TruthWalk {
         int nodeCount = 0;
         int rootNode = 0;
         int metAgain = 0;
+        boolean spent = false;
 
         void startAnew() {
             nodeCount = 0;
             rootNode = TRUE_NODE;
             metAgain = 0;
+            spent = false;
             saidIsOld = true;
-            addNode(TRUE_KIND, 0);
-            addNode(NEVER_KIND, 0);
+            addNode(TRUE_KIND, 0, 0);
+            addNode(NEVER_KIND, 0, 0);
         }
 
         boolean hasNode(int node) {
             return node >= 0 && node < nodeCount && node < MOST_NODES;
         }
 
-        // NONE where there is no room for one node more.
-        int addNode(int kind, int name) {
+        // NONE, and the graph is spent, where there is no room for one node more.
+        int addNode(int kind, int name, int letters) {
             if (nodeCount >= MOST_NODES) {
+                spent = true;
                 return NONE;
             }
             int node = nodeCount;
@@ -997,7 +1000,7 @@ public final class TruthWalk {
             kinds[node] = kind;
             names[node] = name;
             partCounts[node] = 0;
-            letterSets[node] = lettersOf(bitOf(name));
+            letterSets[node] = letters;
             return node;
         }
 
@@ -1356,7 +1359,6 @@ public final class TruthWalk {
         private final Met met = new Met();
         private final int[] lits = new int[SIGN_PLACES];
         private int askedLetters = 0;
-        private boolean spent = false;
 
         Maker() {
             for (int i = 0; i < levels.length; i++) {
@@ -1367,7 +1369,6 @@ public final class TruthWalk {
         // False where the nodes are through: then the graph is not to be used.
         boolean makeGraph(Book book) {
             askedLetters = book.askedLetters;
-            spent = false;
             met.forgetAll();
             for (int i = 0; i < lits.length; i++) {
                 lits[i] = NONE;
@@ -1375,7 +1376,7 @@ public final class TruthWalk {
             book.graph.startAnew();
             levels[0].load(book.clauses, book.clauseCount, 0);
             book.graph.rootNode = makeList(book.graph, 0);
-            return !spent;
+            return !book.graph.spent;
         }
 
         private int makeList(Graph graph, int depth) {
@@ -1387,7 +1388,7 @@ public final class TruthWalk {
             for (int number = 0; number < pieces; number++) {
                 level.pickPiece(number);
                 int node = makePiece(graph, depth);
-                if (spent || node == NEVER_NODE) {
+                if (graph.spent || node == NEVER_NODE) {
                     return NEVER_NODE;
                 }
                 level.keepNode(node);
@@ -1404,25 +1405,25 @@ public final class TruthWalk {
             }
             int letter = level.letterToChoose(askedLetters);
             int yes = makeSide(graph, depth, bitOf(letter));
-            int no = spent ? NEVER_NODE : makeSide(graph, depth, bitOf(-letter));
-            if (spent) {
+            int no = graph.spent ? NEVER_NODE : makeSide(graph, depth, bitOf(-letter));
+            if (graph.spent) {
                 return NEVER_NODE;
             }
             int node = NEVER_NODE;
             if (yes != NEVER_NODE || no != NEVER_NODE) {
-                node = add(graph, CHOICE_KIND, letter);
+                node = graph.addNode(CHOICE_KIND, letter, bitOf(letter));
                 graph.addPart(node, yes);
                 graph.addPart(node, no);
             }
             if (!met.remember(level.piece, level.pieceSize, node)) {
-                spent = true;
+                graph.spent = true;
             }
             return node;
         }
 
         private int makeSide(Graph graph, int depth, int signBit) {
             if (depth + 1 >= levels.length) {
-                spent = true;
+                graph.spent = true;
                 return NEVER_NODE;
             }
             levels[depth + 1].load(levels[depth].piece, levels[depth].pieceSize, signBit);
@@ -1439,7 +1440,7 @@ public final class TruthWalk {
             if (level.takenCount + level.nodeCount == 1) {
                 return level.takenCount == 1 ? level.taken[0] : level.pieceNodes[0];
             }
-            int node = add(graph, BOTH_KIND, 0);
+            int node = graph.addNode(BOTH_KIND, 0, 0);
             for (int i = 0; i < level.takenCount; i++) {
                 graph.addPart(node, level.taken[i]);
             }
@@ -1456,17 +1457,10 @@ public final class TruthWalk {
             }
             if (lits[place] == NONE) {
                 int letter = place % MOST_LETTERS + 1;
-                lits[place] = add(graph, LIT_KIND, place < MOST_LETTERS ? letter : -letter);
+                int sign = place < MOST_LETTERS ? letter : -letter;
+                lits[place] = graph.addNode(LIT_KIND, sign, 1 << (letter - 1));
             }
             return lits[place];
-        }
-
-        private int add(Graph graph, int kind, int name) {
-            int node = graph.addNode(kind, name);
-            if (node == NONE) {
-                spent = true;
-            }
-            return node;
         }
     }
 }

@@ -395,6 +395,37 @@ public final class PromisesTest {
         }
         due("with less it is made", y.compile(0), model.compile(0));
         due("judge", y.judge(0), 0);
+        for (int i = 0; i < 400; i++) {
+            due("compiled again and again", x.compile(0), 1500);
+        }
+        due("met again as at first", x.count(0, 3), 16);
+    }
+
+    // -1 or 2, -2 or 3 .. -11 or 12, and 1: each letter is taken by the one before.
+    private static TruthWalk chainOfTwelve() {
+        TruthWalk x = new TruthWalk();
+        x.letters(0, 12);
+        for (int l = 11; l >= 1; l--) {
+            x.clause(0, -l, l + 1, 0, 0);
+        }
+        x.clause(0, 1, 0, 0, 0);
+        return x;
+    }
+
+    private static void allTaken() {
+        TruthWalk x = chainOfTwelve();
+        due("12 lits and a both", x.compile(0), 15);
+        due("12 parts", x.node(0, 14, 2), 12);
+        for (int j = 0; j < 12; j++) {
+            due("part " + j, x.part(0, 14, j), j + 2);
+            due("its sign", x.node(0, j + 2, 1), j + 1);
+        }
+        due("one row", x.rows(0), 1);
+        due("which says yes of all", x.next(0, -1), 4095);
+        due("judge", x.judge(0), 0);
+        x.clause(0, -11, -12, 0, 0);
+        due("the last one taken leaves a clause without a sign", x.compile(0), 2);
+        due("never", x.root(0), 1);
     }
 
     private static void root() {
@@ -966,6 +997,7 @@ public final class PromisesTest {
         promise("10 count", PromisesTest::count);
         promise("11 compile", PromisesTest::compile);
         promise("11 compile, SPENT", PromisesTest::spent);
+        promise("11 compile, all taken", PromisesTest::allTaken);
         promise("12 root", PromisesTest::root);
         promise("13 node", PromisesTest::node);
         promise("14 part", PromisesTest::part);

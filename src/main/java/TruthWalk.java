@@ -948,12 +948,11 @@ public final class TruthWalk {
 
         private long rowsOfClause(int signs, int word) {
             long rows = 0;
+            int letters = lettersOf(signs);
             for (int letter = 1; letter <= letterCount; letter++) {
-                if ((signs & bitOf(letter)) != 0) {
-                    rows |= rowsWhere(letter, letterCount, word);
-                }
-                if ((signs & bitOf(-letter)) != 0) {
-                    rows |= rowsWhere(-letter, letterCount, word);
+                if (((letters >> (letter - 1)) & 1) != 0) {
+                    boolean plain = (signs & bitOf(letter)) != 0;
+                    rows |= rowsWhere(plain ? letter : -letter, letterCount, word);
                 }
             }
             return rows;
@@ -1107,19 +1106,20 @@ public final class TruthWalk {
             }
         }
 
+        // This is done for every node and word: parts are read here without partAt's tests, as
+        // addPart and bendPart let none in but nodes.
         private long wordOfBoth(int node) {
             long rows = -1;
-            for (int j = 0; j < partCounts[node]; j++) {
-                rows &= saidByNode[partAt(node, j)];
+            int first = node * MOST_PARTS;
+            for (int j = 0; j < partCounts[node] && j < MOST_PARTS; j++) {
+                rows &= saidByNode[parts[first + j]];
             }
             return rows;
         }
 
         private long wordOfChoice(int node, long yes) {
-            if (partCounts[node] != 2) {
-                return 0;
-            }
-            return (yes & saidByNode[partAt(node, 0)]) | (~yes & saidByNode[partAt(node, 1)]);
+            int first = node * MOST_PARTS;
+            return (yes & saidByNode[parts[first]]) | (~yes & saidByNode[parts[first + 1]]);
         }
     }
 

@@ -11,33 +11,6 @@ public final class PromisesTest {
     private static final int LEAST = Integer.MIN_VALUE;
     private static final int GREATEST = Integer.MAX_VALUE;
 
-    // Found by search: with letters 1, 3, 5, 6, 7, 9, 11, 12 asked the graph has 1500 nodes.
-    private static final int[][] JUST_ROOM = {
-        {-8, 12, 6, -10}, {9, -7, 4, 10}, {-4, -9, 5, -2, -8}, {-12, -5, 2, 8, -7},
-        {-4, -9, -3, 10, -2}, {-10, -8, -6, -4, -9}, {7, 2, -1, -10, -9}, {8, 10, -3, -12},
-        {2, -4, -6, -12, 8}, {1, 9, -10, 2}, {4, -8, 10, 11}, {-3, -8, 7, 4}, {-10, -4, -8, 2, 7},
-        {-5, -4, 12, -2, 10}, {4, -2, 3, -8}, {11, -10, 2, -1}, {10, -3, -5, 4, -7},
-        {4, -3, -7, 2}, {-9, 2, -12, 4, 1}, {-2, 11, 10, 3, -4}, {10, 8, -3, -4, 5}, {-5, 2, 8},
-        {-5, 2, 7, 4}, {-4, 6, 3, -2, -8}, {4, -11, 9, 10}, {10, -9, 2, -11, 8},
-        {-2, -4, 1, -8, -10}, {3, 10, -1, -4, -2}, {-3, -4, -8, -10, 11}, {-8, -1, 12, -10},
-        {2, -8, -1, 4, -11}, {3, 8, 10, 7, -4}, {4, 10}, {4, -3, -8, -11}, {-2, 5, -8, -4},
-        {12, -7, 5, -10, -8}, {2, -4, 8}, {-3, 11, 2, -10}, {4, 10}, {10, -4, -2, -7}
-    };
-
-    // Likewise: this one would have 1501 nodes.
-    private static final int[][] ONE_TOO_MANY = {
-        {-8, 12, 6, -10}, {9, -7, 4, 10}, {-4, -9, 5, -2, -8}, {7, 2, -1, -10, -9},
-        {-4, -9, -3, 10, -2}, {-10, -8, -6, -4, -9}, {-12, -5, 2, 8, -7}, {8, 10, -3, -12},
-        {2, -4, -6, -12, 8}, {2, -8, -1, 4, -11}, {10, -3, 5, 4, 7}, {-3, -8, -7, 4},
-        {-5, -4, 12, -2, 10}, {-10, -4, -8, 2, 7}, {4, -2, 3, -8}, {11, -10, 2, -1},
-        {1, 9, -10, 2}, {-9, 2, -12, 4, -1}, {4, -3, -7, 2}, {-5, 2, 7, 4}, {10, -9, 2, -11, 8},
-        {4, -11, 9, 10}, {-2, 11, 10, 3, -4}, {-4, 6, 3, -2, -8}, {-5, 2, 8}, {10, 8, -3, -4, 5},
-        {-2, -4, 1, -8, -10}, {4, -8, 10, 11}, {-3, -4, -8, -10, 11}, {-8, -1, 12, -10},
-        {3, 8, 10, 7, -4}, {3, 10, -1, -4, -2}, {4, 10}, {10, -4, -2, -7}, {4, -3, -8, -11},
-        {12, -7, 5, -10, -8}, {4, 10}, {-3, 11, 2, -10}, {2, -4, 8}, {-2, 5, -8, -4}
-    };
-    private static final int[] ASKED_OF_LARGE = {1, 3, 5, 6, 7, 9, 11, 12};
-
     private PromisesTest() {
     }
 
@@ -45,31 +18,8 @@ public final class PromisesTest {
         Due.is(call, got, want);
     }
 
-    // (1 2) (-1 3) (-2 4) over four letters: whole are 5, 7, 10, 11, 15.
-    private static TruthWalk small() {
-        TruthWalk x = new TruthWalk();
-        x.letters(0, 4);
-        x.clause(0, 1, 2, 0, 0);
-        x.clause(0, -1, 3, 0, 0);
-        x.clause(0, -2, 4, 0, 0);
-        x.compile(0);
-        return x;
-    }
-
-    private static void write(TruthWalk x, int book, int[][] clauses) {
-        for (int[] c : clauses) {
-            x.clause(book, c[0], c.length > 1 ? c[1] : 0, c.length > 2 ? c[2] : 0, c.length > 3 ? c[3] : 0);
-            if (c.length > 4) {
-                x.more(book, c[4]);
-            }
-        }
-    }
-
     private static TruthWalk of(int n, int[]... clauses) {
-        TruthWalk x = new TruthWalk();
-        x.letters(0, n);
-        write(x, 0, clauses);
-        return x;
+        return Walks.of(n, clauses);
     }
 
     private static int[] s(int... signs) {
@@ -121,7 +71,7 @@ public final class PromisesTest {
     }
 
     private static void letters() {
-        TruthWalk x = small();
+        TruthWalk x = Walks.small();
         x.ask(0, 2, true);
         x.fix(0, 1);
         x.weight(0, -4, 5);
@@ -201,7 +151,7 @@ public final class PromisesTest {
     }
 
     private static void drop() {
-        TruthWalk x = small();
+        TruthWalk x = Walks.small();
         due("drop(2)", x.drop(2), BEYOND);
         due("drop(1)", x.drop(1), MISSING);
         due("drop(0)", x.drop(0), 2);
@@ -215,7 +165,7 @@ public final class PromisesTest {
     }
 
     private static void ask() {
-        TruthWalk x = small();
+        TruthWalk x = Walks.small();
         due("ask(0, 0)", x.ask(0, 0, true), BEYOND);
         due("ask(0, 5)", x.ask(0, 5, true), BEYOND);
         due("ask(0, -1)", x.ask(0, -1, true), BEYOND);
@@ -235,7 +185,7 @@ public final class PromisesTest {
     }
 
     private static void fix() {
-        TruthWalk x = small();
+        TruthWalk x = Walks.small();
         due("fix(0, 0)", x.fix(0, 0), BEYOND);
         due("fix(0, 5)", x.fix(0, 5), BEYOND);
         due("fix(0, -5)", x.fix(0, -5), BEYOND);
@@ -257,7 +207,7 @@ public final class PromisesTest {
     }
 
     private static void loose() {
-        TruthWalk x = small();
+        TruthWalk x = Walks.small();
         due("loose(0, 0)", x.loose(0, 0), BEYOND);
         due("loose(0, -1)", x.loose(0, -1), BEYOND);
         due("loose(0, 5)", x.loose(0, 5), BEYOND);
@@ -274,7 +224,7 @@ public final class PromisesTest {
     }
 
     private static void weight() {
-        TruthWalk x = small();
+        TruthWalk x = Walks.small();
         due("weight(2, 1, 1)", x.weight(2, 1, 1), BEYOND);
         due("weight(0, 0, 1)", x.weight(0, 0, 1), BEYOND);
         due("weight(0, -5, 9)", x.weight(0, -5, 9), BEYOND);
@@ -290,7 +240,7 @@ public final class PromisesTest {
     }
 
     private static void count() {
-        TruthWalk x = small();
+        TruthWalk x = Walks.small();
         x.fix(0, 2);
         due("count(2, 9)", x.count(2, 9), BEYOND);
         due("count(0, -1)", x.count(0, -1), NO);
@@ -360,10 +310,8 @@ public final class PromisesTest {
     }
 
     private static void spent() {
-        TruthWalk x = of(12, JUST_ROOM);
-        for (int l : ASKED_OF_LARGE) {
-            x.ask(0, l, true);
-        }
+        TruthWalk x = of(12, Walks.JUST_ROOM);
+        Walks.askAll(x, 0, Walks.ASKED_OF_LARGE);
         due("clauses", x.count(0, 1), 40);
         due("1500 nodes", x.compile(0), 1500);
         due("root", x.root(0), 1499);
@@ -371,10 +319,8 @@ public final class PromisesTest {
         due("rows", x.rows(0), 854);
         due("met again", x.count(0, 3), 16);
         due("node(1500)", x.node(0, 1500, 0), BEYOND);
-        TruthWalk y = of(12, ONE_TOO_MANY);
-        for (int l : ASKED_OF_LARGE) {
-            y.ask(0, l, true);
-        }
+        TruthWalk y = of(12, Walks.ONE_TOO_MANY);
+        Walks.askAll(y, 0, Walks.ASKED_OF_LARGE);
         due("1501 nodes", y.compile(0), SPENT);
         due("no graph", y.root(0), MISSING);
         due("no nodes", y.count(0, 2), 0);
@@ -388,10 +334,10 @@ public final class PromisesTest {
         PlainModel model = new PlainModel();
         model.letters(0, 12);
         for (int i = 0; i < 39; i++) {
-            model.clause(0, ONE_TOO_MANY[i]);
+            model.clause(0, Walks.ONE_TOO_MANY[i]);
         }
         for (int i = 0; i < 7; i++) {
-            model.ask(0, ASKED_OF_LARGE[i], true);
+            model.ask(0, Walks.ASKED_OF_LARGE[i], true);
         }
         due("with less it is made", y.compile(0), model.compile(0));
         due("judge", y.judge(0), 0);
@@ -429,7 +375,7 @@ public final class PromisesTest {
     }
 
     private static void root() {
-        TruthWalk x = small();
+        TruthWalk x = Walks.small();
         due("root(0)", x.root(0), 8);
         due("root(1)", x.root(1), MISSING);
         due("root(2)", x.root(2), BEYOND);
@@ -442,7 +388,7 @@ public final class PromisesTest {
     }
 
     private static void node() {
-        TruthWalk x = small();
+        TruthWalk x = Walks.small();
         int[][] want = {
             {0, 0, 0, 0}, {1, 0, 0, 0}, {2, 4, 0, 8}, {4, 2, 2, 10}, {2, 3, 0, 4},
             {3, 0, 2, 14}, {2, 2, 0, 2}, {3, 0, 2, 10}, {4, 1, 2, 15}};
@@ -470,7 +416,7 @@ public final class PromisesTest {
     }
 
     private static void part() {
-        TruthWalk x = small();
+        TruthWalk x = Walks.small();
         due("yes", x.part(0, 8, 0), 5);
         due("no", x.part(0, 8, 1), 7);
         due("of a both", x.part(0, 5, 1), 3);
@@ -487,7 +433,7 @@ public final class PromisesTest {
     }
 
     private static void bend() {
-        TruthWalk x = small();
+        TruthWalk x = Walks.small();
         due("rows", x.rows(0), 5);
         due("book", x.bend(2, 8, 0, 0), BEYOND);
         due("no graph", x.bend(1, 8, 0, 0), MISSING);
@@ -511,7 +457,7 @@ public final class PromisesTest {
     }
 
     private static void judgeAndGuilty() {
-        TruthWalk x = small();
+        TruthWalk x = Walks.small();
         due("guilty at first", x.guilty(), TruthWalk.NONE);
         due("judge(2)", x.judge(2), BEYOND);
         due("judge(1)", x.judge(1), MISSING);
@@ -586,7 +532,7 @@ public final class PromisesTest {
     }
 
     private static void rowsAndSays() {
-        TruthWalk x = small();
+        TruthWalk x = Walks.small();
         due("rows(0)", x.rows(0), 5);
         due("rows(1)", x.rows(1), MISSING);
         due("rows(2)", x.rows(2), BEYOND);
@@ -614,7 +560,7 @@ public final class PromisesTest {
     }
 
     private static void sumAndWeigh() {
-        TruthWalk x = small();
+        TruthWalk x = Walks.small();
         due("sum(2)", x.sum(2), 0);
         due("sum(1)", x.sum(1), 0);
         due("status(BEYOND)", x.status(BEYOND), 1);
@@ -647,7 +593,7 @@ public final class PromisesTest {
     }
 
     private static void chance() {
-        TruthWalk x = small();
+        TruthWalk x = Walks.small();
         due("book", x.chance(2, 1, true), 0);
         due("sign", x.chance(0, 5, true), 0);
         due("sign ahead of the graph", x.chance(1, 0, true), 0);
@@ -676,7 +622,7 @@ public final class PromisesTest {
     }
 
     private static void sure() {
-        TruthWalk x = small();
+        TruthWalk x = Walks.small();
         due("book", x.sure(2, 1), BEYOND);
         due("sign ahead of the graph", x.sure(1, 9), BEYOND);
         due("sign", x.sure(0, 0), BEYOND);
@@ -691,7 +637,7 @@ public final class PromisesTest {
     }
 
     private static void kth() {
-        TruthWalk x = small();
+        TruthWalk x = Walks.small();
         int[] whole = {5, 7, 10, 11, 15};
         for (int k = 0; k < whole.length; k++) {
             due("kth", x.kth(0, k), whole[k]);
@@ -711,7 +657,7 @@ public final class PromisesTest {
     }
 
     private static void rank() {
-        TruthWalk x = small();
+        TruthWalk x = Walks.small();
         int[] below = {0, 0, 0, 0, 0, 0, 1, 1, 2, 2, 2, 3, 4, 4, 4, 4, 5};
         for (int row = 0; row <= 16; row++) {
             due("rank(0, " + row + ")", x.rank(0, row), below[row]);
@@ -732,7 +678,7 @@ public final class PromisesTest {
     }
 
     private static void next() {
-        TruthWalk x = small();
+        TruthWalk x = Walks.small();
         int[] above = {5, 5, 5, 5, 5, 5, 7, 7, 10, 10, 10, 11, 15, 15, 15, 15, TruthWalk.NONE};
         for (int row = -1; row < 16; row++) {
             due("next(0, " + row + ")", x.next(0, row), above[row + 1]);
@@ -748,7 +694,7 @@ public final class PromisesTest {
     }
 
     private static void most() {
-        TruthWalk x = small();
+        TruthWalk x = Walks.small();
         due("all alike: the least", x.most(0, false), 5);
         due("all alike: the least", x.most(0, true), 5);
         x.weight(0, 1, 2);
@@ -768,7 +714,7 @@ public final class PromisesTest {
     }
 
     private static void asked() {
-        TruthWalk x = small();
+        TruthWalk x = Walks.small();
         due("none asked", x.asked(0), 1);
         due("no graph", x.asked(1), MISSING);
         due("book", x.asked(2), BEYOND);
@@ -792,7 +738,7 @@ public final class PromisesTest {
     }
 
     private static void less() {
-        TruthWalk x = small();
+        TruthWalk x = Walks.small();
         due("1 is missing", x.less(false), MISSING);
         x.compile(1);
         due("N", x.less(false), NO);
@@ -813,7 +759,7 @@ public final class PromisesTest {
     }
 
     private static void join() {
-        TruthWalk x = small();
+        TruthWalk x = Walks.small();
         due("N", x.join(), NO);
         x.letters(1, 4);
         due("none comes", x.join(), 3);

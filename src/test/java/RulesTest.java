@@ -121,6 +121,15 @@ public final class RulesTest {
         Due.is("public constants", constants, 9);
     }
 
+    private static boolean isOfFace(String name) {
+        for (String call : FACE) {
+            if (call.split(" ")[1].equals(name)) {
+                return true;
+            }
+        }
+        return false;
+    }
+
     private static void classesInside() {
         Class<?>[] inside = TruthWalk.class.getDeclaredClasses();
         Due.holds("at most twelve classes", inside.length <= 12);
@@ -135,6 +144,8 @@ public final class RulesTest {
             Due.holds(c.getName() + " has at most twenty fields", fields <= 20);
             for (Method m : c.getDeclaredMethods()) {
                 Due.holds(m.getName() + " takes at most seven", m.getParameterCount() <= 7);
+                Due.holds(c.getName() + "." + m.getName() + " is no public name",
+                    !Modifier.isPrivate(m.getModifiers()) || !isOfFace(m.getName()));
             }
         }
     }

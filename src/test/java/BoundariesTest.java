@@ -566,6 +566,18 @@ public final class BoundariesTest {
             2, 4, 4, 2, 2, 2, 2, 3, 3, 0, 4, 1, 2, 5, 3, 0);
     }
 
+    /** A list is not the same as one that begins alike and is longer, nor as one that is shorter. */
+    private static void listsThatBeginAlike() {
+        TruthWalk longer = Walks.of(5, s(-2, 3), s(1, -2, 5), s(1, 4));
+        longer.ask(0, 4, true);
+        nodes("the longer one first", longer, 2, 5, 4, 1, 2, 3, 3, 0, 4, 2, 4, 2, 2, 1, 3, 0, 4, 4);
+        within("none is met again", longer, w -> w.count(0, 3), 0);
+        TruthWalk shorter = Walks.of(5, s(-2, 3), s(1, -2, 5), s(1, -4));
+        shorter.ask(0, 4, true);
+        nodes("the shorter one first", shorter, 2, 3, 4, 2, 2, 1, 3, 0, 2, 5, 4, 1, 3, 0, 4, 2, 4, 4);
+        within("none is met again", shorter, w -> w.count(0, 3), 0);
+    }
+
     private static void sixPieces() {
         TruthWalk x = of(12, s(11, 12), s(1, 2), s(9, 10), s(3, 4), s(7, 8), s(5, 6));
         within("six lits, six choices, a both", x, w -> w.count(0, 2), 15);
@@ -1249,6 +1261,7 @@ public final class BoundariesTest {
     private static void graphs() {
         promise("11 1500 nodes at most", BoundariesTest::fifteenHundredNodes);
         promise("11 lists at their ends", BoundariesTest::listsAtTheirEnds);
+        promise("11 the same clauses, in the same order", BoundariesTest::listsThatBeginAlike);
         promise("11 six pieces", BoundariesTest::sixPieces);
         promise("13 nodes of none, what", BoundariesTest::nodesAndWhat);
         promise("14 parts of none", BoundariesTest::places);

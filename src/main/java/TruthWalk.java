@@ -1033,9 +1033,14 @@ public final class TruthWalk {
         private void gatherLetters(int node) {
             int letters = lettersOf(bitOf(names[node]));
             for (int j = 0; j < partCounts[node]; j++) {
-                letters |= letterSets[partAt(node, j)];
+                letters |= lettersOfPart(node, j);
             }
             letterSets[node] = letters;
+        }
+
+        private int lettersOfPart(int node, int j) {
+            int part = partAt(node, j);
+            return hasNode(part) ? letterSets[part] : 0;
         }
 
         int leastSharingBoth() {
@@ -1050,7 +1055,7 @@ public final class TruthWalk {
         private boolean partsShare(int node) {
             int seen = 0;
             for (int j = 0; j < partCounts[node]; j++) {
-                int letters = letterSets[partAt(node, j)];
+                int letters = lettersOfPart(node, j);
                 if ((seen & letters) != 0) {
                     return true;
                 }
@@ -1062,7 +1067,7 @@ public final class TruthWalk {
         int leastRepeatingChoice() {
             for (int node = 0; node < nodeCount; node++) {
                 if (kinds[node] == CHOICE_KIND && partCounts[node] == 2) {
-                    int below = letterSets[partAt(node, 0)] | letterSets[partAt(node, 1)];
+                    int below = lettersOfPart(node, 0) | lettersOfPart(node, 1);
                     if ((below & bitOf(names[node])) != 0) {
                         return node;
                     }
@@ -1106,20 +1111,25 @@ public final class TruthWalk {
             }
         }
 
-        // This is done for every node and word: parts are read here without partAt's tests, as
-        // addPart and bendPart let none in but nodes.
+        // This is done for every node and word, so that one test of a part stands for all of partAt's.
         private long wordOfBoth(int node) {
             long rows = -1;
             int first = node * MOST_PARTS;
             for (int j = 0; j < partCounts[node] && j < MOST_PARTS; j++) {
-                rows &= saidByNode[parts[first + j]];
+                int part = parts[first + j];
+                rows &= part >= 0 && part < node ? saidByNode[part] : 0;
             }
             return rows;
         }
 
         private long wordOfChoice(int node, long yes) {
             int first = node * MOST_PARTS;
-            return (yes & saidByNode[parts[first]]) | (~yes & saidByNode[parts[first + 1]]);
+            int yesPart = parts[first];
+            int noPart = parts[first + 1];
+            if (yesPart < 0 || yesPart >= node || noPart < 0 || noPart >= node) {
+                return 0;
+            }
+            return (yes & saidByNode[yesPart]) | (~yes & saidByNode[noPart]);
         }
     }
 

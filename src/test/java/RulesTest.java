@@ -56,6 +56,13 @@ public final class RulesTest {
         }
     }
 
+    // A part is looked at before it is an index: partAt answers NONE where there is none.
+    private static void partsAsIndexes(String source) {
+        for (String unseen : new String[] {"[partAt(", "[parts["}) {
+            Due.holds("no index " + unseen, !source.contains(unseen));
+        }
+    }
+
     // Only constructors and fields make objects: a run of calls makes none.
     private static void makings(String source) {
         for (String line : source.split("\n")) {
@@ -154,6 +161,7 @@ public final class RulesTest {
         String source = Files.readString(Path.of("src/main/java/TruthWalk.java"));
         Due.about("LANGUAGE.md");
         words(source);
+        partsAsIndexes(source);
         makings(source);
         methodsAreShort(source);
         face();
